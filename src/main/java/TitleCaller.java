@@ -207,12 +207,14 @@ public final class TitleCaller {
         if (time < 0) {
             return BAD_VALUE;
         }
-        for (int tempo = MIN_TEMPO; tempo <= MAX_TEMPO; tempo++) {
-            if (night.endIfAllAt(score, tempo) <= time) {
-                return tempo;
+        // A higher tempo never makes the night longer, so halving steps find the highest one that is too slow.
+        int tooSlow = MIN_TEMPO - 1;
+        for (int step = 128; step > 0; step /= 2) {
+            if (tooSlow + step <= MAX_TEMPO && night.endIfAllAt(score, tooSlow + step) > time) {
+                tooSlow += step;
             }
         }
-        return NONE;
+        return tooSlow >= MAX_TEMPO ? NONE : tooSlow + 1;
     }
 
     public int put(long characters) {

@@ -227,6 +227,25 @@ public final class ChangesTest {
         Check.due("8 undo", x.undo(), 5);
         Check.due("8 blackouts again", x.count(3), 2);
         Check.due("8 a new one behind", x.repeat(7, 7), 1);
+        fullRowsLoseTheirFirst();
+    }
+
+    private static void fullRowsLoseTheirFirst() {
+        TitleCaller x = new TitleCaller();
+        for (int number = 0; number < 4; number++) {
+            x.repeat(2 * number, 2 * number);
+            x.cut(20 + number, 20 + number);
+            x.blackout(5 * number, 5 * number);
+        }
+        for (int left = 3; left >= 0; left--) {
+            Check.due("8 repeats left", x.undoSpan(0, 0), left);
+            Check.due("8 cuts left", x.undoSpan(1, 0), left);
+            Check.due("8 the last repeat stands", x.ofBar(6, 3), left > 0 ? 2 : 1);
+            Check.due("8 the last cut stands", x.ofBar(23, 5), left > 0 ? 1 : 0);
+        }
+        Check.due("8 blackouts left", x.undoSpan(2, 0), 2);
+        Check.due("8 its place", x.sung(0, 2), 0);
+        Check.due("8 the last blackout stands", x.sung(10, 2), 1);
     }
 
     private static void promise9Title() {
@@ -251,6 +270,8 @@ public final class ChangesTest {
         Check.due("9 bar", x.ofTitle(19, 1), 31);
         Check.due("9 bars", x.ofTitle(19, 2), 20);
         Check.due("9 letters", x.ofTitle(19, 3), 80);
+        Check.due("9 the first of 20 is dropped", x.drop(0), 19);
+        Check.due("9 the last moves up", x.ofTitle(18, 0), TitleCaller.EACH);
     }
 
     private static void promise10Drop() {

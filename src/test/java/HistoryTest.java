@@ -4,12 +4,14 @@ public final class HistoryTest {
 
     public static void main(String[] args) {
         promise23EachChange();
+        promise23WholeState();
         promise23SixStates();
         promise23Errors();
         promise23PadAndSlotsStay();
         promise23UndoThenChange();
         promise24Save();
         promise25Restore();
+        promise25WholeState();
         Check.finish("HistoryTest");
     }
 
@@ -45,6 +47,93 @@ public final class HistoryTest {
         Check.due("23 bar", x.undo(), 1);
         Check.due("23 beats again", x.ofBar(3, 0), 4);
         Check.due("23 tempo again", x.ofBar(3, 1), 60);
+    }
+
+    private static final int KINDS_OF_CHANGES = 12;
+
+    // More changes than the history holds, so that no state of it holds by chance what is due.
+    private static TitleCaller richScore() {
+        TitleCaller x = new TitleCaller();
+        x.bars(9);
+        x.shortest(8);
+        x.bar(3, 5, 77);
+        x.repeat(1, 2);
+        x.repeat(4, 4);
+        x.cut(6, 6);
+        x.cut(2, 2);
+        x.blackout(3, 3);
+        x.blackout(5, 5);
+        x.title(0, 1, 2, 11);
+        x.title(1, 4, 3, 12);
+        x.title(2, 8, 4, 13);
+        x.title(1, 5, 1, 14);
+        x.save(1);
+        return x;
+    }
+
+    private static int change(TitleCaller x, int sort) {
+        switch (sort) {
+            case 0: return x.bars(12);
+            case 1: return x.shortest(40);
+            case 2: return x.bar(3, 7, 50);
+            case 3: return x.repeat(5, 6);
+            case 4: return x.cut(8, 8);
+            case 5: return x.blackout(0, 1);
+            case 6: return x.undoSpan(0, 0);
+            case 7: return x.undoSpan(1, 0);
+            case 8: return x.undoSpan(2, 0);
+            case 9: return x.title(0, 7, 1, 15);
+            case 10: return x.drop(0);
+            default:
+                Check.write(x, "-1;x3-4;b0=1@99;l1+1:7");
+                return x.carryOut();
+        }
+    }
+
+    /** One number out of all that a score of few bars and titles tells. */
+    private static long toldBy(TitleCaller x) {
+        long told = 0;
+        for (int what = 0; what < 13; what++) {
+            told = 31 * told + x.count(what);
+        }
+        for (int bar = 0; bar < 9; bar++) {
+            for (int what = 0; what < 6; what++) {
+                told = 31 * told + x.ofBar(bar, what);
+            }
+        }
+        for (int place = 0; place < 10; place++) {
+            told = 31 * (31 * told + x.sung(place, 0)) + x.sung(place, 2);
+        }
+        for (int title = 0; title < 5; title++) {
+            for (int what = 0; what < 7; what++) {
+                told = 31 * told + x.ofTitle(title, what);
+            }
+        }
+        return told;
+    }
+
+    private static void promise23WholeState() {
+        for (int sort = 0; sort < KINDS_OF_CHANGES; sort++) {
+            TitleCaller x = richScore();
+            long before = toldBy(x);
+            Check.holds("23 change " + sort + " is possible", change(x, sort) >= 0);
+            Check.holds("23 change " + sort + " is seen", toldBy(x) != before);
+            Check.due("23 undo of change " + sort, x.undo(), 5);
+            Check.due("23 all is as before change " + sort, toldBy(x), before);
+        }
+    }
+
+    private static void promise25WholeState() {
+        for (int sort = 0; sort < KINDS_OF_CHANGES; sort++) {
+            TitleCaller x = richScore();
+            long before = toldBy(x);
+            change(x, sort);
+            long after = toldBy(x);
+            Check.due("25 restore ahead of change " + sort, x.restore(1), 4);
+            Check.due("25 all is as ahead of change " + sort, toldBy(x), before);
+            Check.due("25 undo of restore", x.undo(), 5);
+            Check.due("25 all is as behind change " + sort, toldBy(x), after);
+        }
     }
 
     private static void promise23SixStates() {

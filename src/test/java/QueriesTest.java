@@ -8,6 +8,7 @@ public final class QueriesTest {
         promise12Sung();
         promise13OfTitle();
         promise14Showing();
+        promise14AsManyAsThereCanBe();
         promise15At();
         promise16Count();
         promise17CutIf();
@@ -115,6 +116,36 @@ public final class QueriesTest {
         Check.due("14 showing highest", x.showing(HIGHEST, 0), TitleCaller.NO_SUCH);
         Check.due("14 what 8", x.showing(3, 8), TitleCaller.BAD_VALUE);
         Check.due("14 what -1", x.showing(3, -1), TitleCaller.BAD_VALUE);
+    }
+
+    private static void promise14AsManyAsThereCanBe() {
+        TitleCaller x = new TitleCaller();
+        x.bars(60);
+        x.repeat(0, 59);
+        for (int title = 0; title < 20; title++) {
+            x.title(TitleCaller.EACH, 40 + title, 1, 1);
+        }
+        Check.due("14 showings", x.count(8), 40);
+        Check.due("14 all show", x.count(9), 40);
+        Check.due("14 none too short", x.count(11), 0);
+        Check.due("14 the last one", x.showing(39, 0), 19);
+        Check.due("14 its place", x.showing(39, 1), 119);
+        Check.due("14 until the end of the night", x.showing(39, 6), 4800);
+        Check.due("14 no other", x.showing(40, 0), TitleCaller.NO_SUCH);
+        Check.due("14 for all of these bars", x.count(12), 1600);
+        Check.due("14 at the end", x.at(4799), 19);
+        Check.due("14 two of each", x.ofTitle(19, 5), 2);
+        Check.due("14 tenths of each", x.ofTitle(19, 6), 80);
+        Check.due("14 a cut of all", x.cutIf(0, 59, 1), (1 << 20) - 1);
+        Check.due("14 slowest", x.slowest(14400), 20);
+        Check.due("14 slower", x.slowest(14399), 21);
+        x.undoSpan(0, 0);
+        Check.due("14 once", x.count(8), 20);
+        x.title(TitleCaller.EACH, 0, 1, 1);
+        x.drop(0);
+        x.title(TitleCaller.EACH, 0, 1, 1);
+        Check.due("14 the places of before are gone", x.count(8), 20);
+        Check.due("14 the title at bar 0", x.ofTitle(19, 4), 1);
     }
 
     private static void promise15At() {
