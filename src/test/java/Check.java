@@ -1,3 +1,5 @@
+import java.util.Arrays;
+
 /** Counts the answers of one test program, and ends it with 1 if one was not as due. */
 final class Check {
     private static int right = 0;
@@ -17,6 +19,16 @@ final class Check {
 
     static void holds(String what, boolean isSo) {
         due(what, isSo ? 1 : 0, 1);
+    }
+
+    static void same(String what, int[] got, int[] want) {
+        int difference = Arrays.mismatch(got, want);
+        if (difference < 0) {
+            right++;
+            return;
+        }
+        wrong++;
+        System.out.println(what + ": differs from answer " + difference + " on");
     }
 
     /** Packs up to eight characters as put() takes them. */

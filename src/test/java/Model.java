@@ -1,4 +1,5 @@
 import java.util.ArrayList;
+import java.util.Arrays;
 import java.util.List;
 import java.util.regex.Matcher;
 import java.util.regex.Pattern;
@@ -115,7 +116,10 @@ final class Model {
     }
 
     private static boolean within(List<int[]> spans, int number) {
-        return spans.stream().anyMatch(span -> span[0] <= number && number <= span[1]);
+        for (int[] span : spans) {
+            if (span[0] <= number && number <= span[1]) return true;
+        }
+        return false;
     }
 
     int cut(int first, int last) {
@@ -186,22 +190,27 @@ final class Model {
         return 600 * s.beatsAndTempo[bar][0] / s.beatsAndTempo[bar][1];
     }
 
-    /** The time at which a place begins: that at which all places ahead of it have ended. */
-    private static int timeOf(State s, int place) {
+    /** The times at which the places begin, and the end of the night behind them. */
+    private static int[] timesOf(State s) {
         List<Integer> sung = sungBars(s);
-        int time = 0;
-        for (int ahead = 0; ahead < Math.min(place, sung.size()); ahead++) {
-            time += tenths(s, sung.get(ahead));
+        int[] times = new int[sung.size() + 1];
+        for (int place = 0; place < sung.size(); place++) {
+            times[place + 1] = times[place] + tenths(s, sung.get(place));
         }
-        return time;
+        return times;
+    }
+
+    private static int timeOf(int[] times, int place) {
+        return times[Math.min(place, times.length - 1)];
     }
 
     private static int endOf(State s) {
-        return timeOf(s, 1000);
+        return timeOf(timesOf(s), 1000);
     }
 
     private static List<Show> shows(State s) {
         List<Integer> sung = sungBars(s);
+        int[] times = timesOf(s);
         List<Show> all = new ArrayList<>();
         for (int place = 0; place < sung.size(); place++) {
             for (int number = 0; number < s.titles.size(); number++) {
@@ -213,20 +222,20 @@ final class Model {
                     Show show = new Show();
                     show.title = number;
                     show.place = place;
-                    show.from = Math.max(0, timeOf(s, place) - new int[] {5, 0, 20}[title[0]]);
-                    show.until = timeOf(s, place + title[2]);
+                    show.from = Math.max(0, times[place] - new int[] {5, 0, 20}[title[0]]);
+                    show.until = timeOf(times, place + title[2]);
                     all.add(show);
                 }
             }
         }
-        look(s, all);
+        look(s, all, times);
         return all;
     }
 
-    private static void look(State s, List<Show> all) {
+    private static void look(State s, List<Show> all, int[] times) {
         List<Show> shown = new ArrayList<>();
         for (Show show : all) {
-            if (black(s, show.from)) {
+            if (black(s, times, show.from)) {
                 show.reason = 1;
                 continue;
             }
@@ -249,11 +258,11 @@ final class Model {
         }
     }
 
-    private static boolean black(State s, int time) {
-        int places = sungBars(s).size();
+    private static boolean black(State s, int[] times, int time) {
+        int places = times.length - 1;
         for (int[] blackout : s.spans.get(2)) {
             for (int place = blackout[0]; place <= blackout[1] && place < places; place++) {
-                if (timeOf(s, place) <= time && time < timeOf(s, place + 1)) return true;
+                if (times[place] <= time && time < times[place + 1]) return true;
             }
         }
         return false;
@@ -278,7 +287,7 @@ final class Model {
         if (place < 0 || place >= sung.size()) return NO_SUCH;
         switch (what) {
             case 0: return sung.get(place);
-            case 1: return timeOf(state, place);
+            case 1: return timesOf(state)[place];
             case 2: return within(state.spans.get(2), place) ? 1 : 0;
             default: return BAD_VALUE;
         }
@@ -344,9 +353,12 @@ final class Model {
         List<Show> all = shows(state);
         all.removeIf(show -> show.reason != 0);
         int tenths = 0;
-        for (int time = 0; time < endOf(state); time++) {
-            int now = time;
-            if (all.stream().anyMatch(show -> show.begin <= now && now < show.end)) tenths++;
+        boolean[] something = new boolean[endOf(state)];
+        for (Show show : all) {
+            Arrays.fill(something, show.begin, show.end, true);
+        }
+        for (boolean shows : something) {
+            tenths += shows ? 1 : 0;
         }
         return tenths;
     }
