@@ -32,7 +32,7 @@ public final class LanguageTest {
     }
 
     private static void checkMethods(List<String> lines) {
-        Pattern head = Pattern.compile("^( {4}| {8})(?! )[\\w\\[\\] ]+\\(([^()]*)\\) \\{$");
+        Pattern head = Pattern.compile("^( {4}| {8})(?! |for |if |switch |return )[\\w\\[\\] ]+\\(([^()]*)\\) \\{$");
         for (int line = 0; line < lines.size(); line++) {
             Matcher matcher = head.matcher(lines.get(line));
             if (!matcher.find() || lines.get(line).contains(" new ")) {
@@ -44,7 +44,16 @@ public final class LanguageTest {
                 last++;
             }
             Check.holds("short: " + lines.get(line), last - line <= 60);
+            Check.holds("objects in constructors alone: " + lines.get(line), isConstructor(matcher.group()) || !makes(lines.subList(line, last)));
             Check.holds("seven parameters at the most: " + lines.get(line), matcher.group(2).split(",").length <= 7);
         }
+    }
+
+    private static boolean isConstructor(String head) {
+        return head.matches(" *(public )?[A-Z]\\w*\\(.*");
+    }
+
+    private static boolean makes(List<String> lines) {
+        return lines.stream().anyMatch(line -> line.matches(".*\\bnew\\b.*"));
     }
 }
